@@ -1,0 +1,182 @@
+import java.io.IOException;
+import java.lang.reflect.Constructor;
+import java.lang.reflect.Field;
+import java.lang.reflect.Method;
+import java.lang.reflect.Modifier;
+import java.nio.file.Files;
+import java.nio.file.Path;
+import java.util.ArrayList;
+import java.util.Arrays;
+import java.util.List;
+import java.util.Random;
+import java.util.Set;
+import java.util.TreeSet;
+import java.util.regex.Matcher;
+import java.util.regex.Pattern;
+
+/** The public face, the rules of LANGUAGE.md that can be seen from outside, and that no call throws. */
+public final class LanguageTest {
+    private static final Path SOURCE = Path.of("src/main/java/SpeechMarks.java");
+    private static final String[] FACE = {
+        "alter(int,int)", "changes(int)", "count(int)", "depth(int)", "fault()", "kind(int)",
+        "lay()", "least()", "mend()", "mended(int)", "paragraph(int,int)", "partner(int)",
+        "put(int,int)", "quote(int,int)", "retell(int)", "rule(int)", "said(int)", "sign(int)",
+        "speak()", "take(int)", "undo()", "weigh(int,int)", "wipe()", "would(int,int)",
+        "write(int)", "wrong(int,int)",
+    };
+    private static final List<String> wrongs = new ArrayList<>();
+
+    public static void main(String[] args) throws IOException, ReflectiveOperationException {
+        face();
+        classesInside();
+        source();
+        noCallThrows();
+        for (String line : wrongs) {
+            System.out.println("LanguageTest: " + line);
+        }
+        System.out.println("LanguageTest: " + wrongs.size() + " wrong");
+        if (!wrongs.isEmpty()) {
+            System.exit(1);
+        }
+    }
+
+    private static void must(boolean holds, String what) {
+        if (!holds) {
+            wrongs.add(what);
+        }
+    }
+
+    private static void face() {
+        Class<SpeechMarks> face = SpeechMarks.class;
+        must(Modifier.isPublic(face.getModifiers()) && Modifier.isFinal(face.getModifiers()), "not public final");
+        Set<String> open = new TreeSet<>();
+        Set<String> names = new TreeSet<>();
+        for (Method method : face.getDeclaredMethods()) {
+            if (!Modifier.isPrivate(method.getModifiers())) {
+                must(method.getReturnType() == int.class, method + " answers no int");
+                must(!Modifier.isStatic(method.getModifiers()), method + " is static");
+                open.add(signature(method));
+                names.add(method.getName());
+            }
+        }
+        must(open.equals(new TreeSet<>(Arrays.asList(FACE))), "the methods are " + open);
+        for (Class<?> any : allClasses()) {
+            for (Method method : any.getDeclaredMethods()) {
+                must(any == face && !Modifier.isPrivate(method.getModifiers()) || !names.contains(method.getName()),
+                    method + " bears the name of a public method");
+            }
+        }
+        Set<String> fields = new TreeSet<>();
+        for (Field field : face.getDeclaredFields()) {
+            if (!Modifier.isPrivate(field.getModifiers())) {
+                fields.add(field.getName());
+            }
+        }
+        must(fields.equals(new TreeSet<>(Arrays.asList("BAD", "FULL", "NO", "NONE"))), "the constants are " + fields);
+        Constructor<?>[] makers = face.getDeclaredConstructors();
+        must(makers.length == 1 && Modifier.isPublic(makers[0].getModifiers())
+            && makers[0].getParameterCount() == 0, "the constructor");
+    }
+
+    private static String signature(Method method) {
+        StringBuilder all = new StringBuilder(method.getName()).append('(');
+        for (int i = 0; i < method.getParameterCount(); i++) {
+            all.append(i == 0 ? "" : ",").append(method.getParameterTypes()[i].getName());
+        }
+        return all.append(')').toString();
+    }
+
+    private static List<Class<?>> allClasses() {
+        List<Class<?>> all = new ArrayList<>();
+        all.add(SpeechMarks.class);
+        all.addAll(Arrays.asList(SpeechMarks.class.getDeclaredClasses()));
+        return all;
+    }
+
+    private static void classesInside() {
+        must(allClasses().size() <= 12, "more than twelve classes");
+        for (Class<?> any : allClasses()) {
+            int modifiers = any.getModifiers();
+            must(any == SpeechMarks.class || Modifier.isStatic(modifiers)
+                && !Modifier.isPublic(modifiers) && !Modifier.isProtected(modifiers), any + " is not static or not closed");
+            int fields = 0;
+            for (Field field : any.getDeclaredFields()) {
+                boolean isStatic = Modifier.isStatic(field.getModifiers());
+                must(!isStatic || Modifier.isFinal(field.getModifiers()), field + " is static and not final");
+                fields += isStatic ? 0 : 1;
+            }
+            must(fields <= 20, any + " has " + fields + " fields");
+            for (Method method : any.getDeclaredMethods()) {
+                must(method.getParameterCount() <= 7, method + " takes more than seven");
+            }
+        }
+    }
+
+    private static void source() throws IOException {
+        String whole = Files.readString(SOURCE);
+        must(whole.chars().allMatch(c -> c == '\n' || c >= 32 && c < 127), "a sign outside ASCII");
+        String code = whole.replaceAll("(?s)/\\*.*?\\*/", "").replaceAll("//[^\n]*", "")
+            .replaceAll("'(\\\\.|[^'\\\\])'", "0").replaceAll("\"(\\\\.|[^\"\\\\])*\"", "0");
+        String[] none = {"throw", "throws", "try", "catch", "synchronized", "assert", "import", "package",
+            "native", "volatile", "transient", "Object", "Exception", "System", "Thread", "Random", "protected"};
+        for (String word : none) {
+            must(!Pattern.compile("\\b" + word + "\\b").matcher(code).find(), "the word " + word);
+        }
+        must(!code.contains("->") && !code.contains("::"), "a lambda or a method reference");
+        must(!code.contains("Exact"), "a function whose name ends in Exact");
+        must(!Pattern.compile("\\bstatic\\s*\\{").matcher(code).find(), "a static initialiser block");
+        must(!Pattern.compile("while\\s*\\(\\s*true|for\\s*\\(\\s*;").matcher(code).find(), "a loop without an end");
+        methodsAreShort(code);
+    }
+
+    private static void methodsAreShort(String code) {
+        Matcher heads = Pattern.compile("(?m)^( {4}| {8})\\w[^;={]*\\([^;{]*\\) \\{$").matcher(code);
+        int methods = 0;
+        while (heads.find()) {
+            int end = code.indexOf("\n" + heads.group(1) + "}", heads.end());
+            long lines = code.substring(heads.start(), Math.max(end, heads.start())).lines().count();
+            must(lines <= 60, "a long method: " + heads.group().trim());
+            methods++;
+        }
+        must(methods > FACE.length, "the methods were not found in the source");
+    }
+
+    /** Any arguments in any state, and every method, on objects that are used up to 512 calls. */
+    private static void noCallThrows() throws ReflectiveOperationException {
+        List<Method> methods = new ArrayList<>();
+        for (Method method : SpeechMarks.class.getDeclaredMethods()) {
+            if (Modifier.isPublic(method.getModifiers())) {
+                methods.add(method);
+            }
+        }
+        methods.sort((a, b) -> a.getName().compareTo(b.getName()));
+        for (int seed = 0; seed < 300; seed++) {
+            Random random = new Random(seed);
+            SpeechMarks x = new SpeechMarks();
+            for (int call = 0; call < 512; call++) {
+                Method method = methods.get(random.nextInt(methods.size()));
+                Object[] arguments = new Object[method.getParameterCount()];
+                for (int i = 0; i < arguments.length; i++) {
+                    arguments[i] = anyNumber(random);
+                }
+                method.invoke(x, arguments);
+                fill(x, random);
+            }
+        }
+    }
+
+    private static int anyNumber(Random random) {
+        switch (random.nextInt(6)) {
+            case 0: return random.nextInt();
+            case 1: return random.nextBoolean() ? Integer.MAX_VALUE : Integer.MIN_VALUE;
+            case 2: return random.nextInt(130) - 4;
+            case 3: return "<>{}()[]\"'| a".charAt(random.nextInt(13));
+            default: return random.nextInt(6) - 1;
+        }
+    }
+
+    private static void fill(SpeechMarks x, Random random) {
+        int size = x.count(0);
+        x.put(random.nextInt(size + 1), "<>{}()[]\"'| a<>{}|".charAt(random.nextInt(18)));
+    }
+}
