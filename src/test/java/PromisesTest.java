@@ -182,6 +182,9 @@ public final class PromisesTest {
             tell(x, "a" + (char) letter);
             due("fault of " + (char) letter, x.fault(), good ? NONE : 1);
         }
+        tell(x, "Aa");
+        due("the first letter", x.fault(), 0);
+        due("the first letter, lay", x.lay(), NO);
         tell(x, "abAcB");
         due("the first of two", x.fault(), 2);
         tell(x, "a".repeat(120));
@@ -222,6 +225,11 @@ public final class PromisesTest {
         due("tongue stays", x.count(2), 2);
         due("rule stays", x.count(3), 2);
         due("weight stays", x.count(5), 7);
+        due("read ahead of it", x.kind(0) + x.least(), 0);
+        tell(x, "<a");
+        due("lay()", x.lay(), 2);
+        due("read anew", x.kind(0), 6);
+        due("mended anew", x.least(), 2);
         tell(x, "a".repeat(120));
         due("120", x.lay(), 120);
         x.write('a');
@@ -593,6 +601,14 @@ public final class PromisesTest {
         due("put in for 4", x.least(), 4);
         x.weigh(1, 3);
         due("take out for 3", x.least(), 3);
+        x = laid("north", 2, "<{<{<{a|b}>}>}>");
+        x.weigh(1, 9);
+        x.weigh(2, 9);
+        due("six are due", x.least(), 6);
+        x = laid("a}>}>}>");
+        x.weigh(1, 9);
+        x.weigh(2, 9);
+        due("opened six deep", x.least(), 6);
         due("all breaks", laid("|".repeat(120)).least(), 0);
         x = laid("(".repeat(120));
         due("foreign", x.least(), 120);
@@ -737,6 +753,9 @@ public final class PromisesTest {
         due("speech stays", speech(x), "<a");
         due("bad ahead of no", x.retell(4), BAD);
         due("count(8)", x.count(8), 0);
+        x = laid("<{<{<{a|<b}>}>}>");
+        due("from the first sign to the last, and down to 6", x.retell(2), 0);
+        due("speech", speech(x), "([([([a|(b])])])");
         x = laid("");
         due("empty", x.retell(3), 0);
         due("count(2)", x.count(2), 3);
@@ -763,5 +782,8 @@ public final class PromisesTest {
         due("greatest", x.count(9), 3);
         due("behind the last", x.count(10), 1);
         due("all ten", laid("<>{}()[]\"'a |").count(1), 10);
+        x = laid("<>");
+        x.take(1);
+        due("marks that are left", x.count(1), 1);
     }
 }
