@@ -67,6 +67,8 @@ public final class SpeechMarks {
     private static final int SPAN = DEEPEST + 1;
     private static final int STATES = SPAN * SPAN;
     private static final int STUCK = -1;
+    /** In any state two marks at most may come next. */
+    private static final int CHOICES = 2;
 
     private static final int FAR = 1000000;
     /**
@@ -575,15 +577,49 @@ public final class SpeechMarks {
     private static final class Grammar {
         private int tongue;
         private int ruling;
+        /** Of each state and choice: the mark that may come next, and the state behind it. */
+        private final Row offers = new Row(STATES * CHOICES);
+        private final Row nexts = new Row(STATES * CHOICES);
 
         Grammar() {
-            tongue = 0;
-            ruling = 0;
+            tongue = NONE;
+            ruling = NONE;
         }
 
         void speakAs(int newTongue, int newRuling) {
+            if (tongue == newTongue && ruling == newRuling) {
+                return;
+            }
             tongue = newTongue;
             ruling = newRuling;
+            for (int depth = 0; depth <= DEEPEST; depth++) {
+                learnFreeState(depth);
+                int most = dueBehindBreak(depth);
+                for (int left = 1; left <= most; left++) {
+                    int state = stateOf(depth, left);
+                    offer(state, 0, openerOf(tongue, most - left), state - 1);
+                    offer(state, 1, NO_SIGN, STUCK);
+                }
+            }
+        }
+
+        private void learnFreeState(int depth) {
+            int state = stateOf(depth, 0);
+            if (depth < DEEPEST) {
+                offer(state, 0, openerOf(tongue, depth), state + SPAN);
+            } else {
+                offer(state, 0, NO_SIGN, STUCK);
+            }
+            if (depth >= 1) {
+                offer(state, 1, closerOf(tongue, depth), state - SPAN);
+            } else {
+                offer(state, 1, NO_SIGN, STUCK);
+            }
+        }
+
+        private void offer(int state, int choice, int mark, int next) {
+            offers.set(state * CHOICES + choice, mark);
+            nexts.set(state * CHOICES + choice, next);
         }
 
         static int depthOf(int state) {
@@ -613,31 +649,29 @@ public final class SpeechMarks {
 
         /** The marks that may come next, in the order in which mending tries them. */
         int offered(int state, int choice) {
-            int depth = depthOf(state);
-            if (leftDue(state) > 0) {
-                return choice == 0 ? openerOf(tongue, firstDue(state)) : NO_SIGN;
-            }
-            if (choice == 0) {
-                return depth < DEEPEST ? openerOf(tongue, depth) : NO_SIGN;
-            }
-            return depth >= 1 ? closerOf(tongue, depth) : NO_SIGN;
+            return offers.at(state * CHOICES + choice);
+        }
+
+        int behindOffer(int state, int choice) {
+            return nexts.at(state * CHOICES + choice);
         }
 
         /** The state behind a sign, or STUCK if the sign is wrong in this state. */
         int step(int state, int sign) {
-            if (leftDue(state) > 0) {
-                return sign == offered(state, 0) ? state - 1 : STUCK;
+            if (leftDue(state) == 0) {
+                if (isLetter(sign) || sign == BLANK) {
+                    return state;
+                }
+                if (sign == BREAK) {
+                    return state + dueBehindBreak(depthOf(state));
+                }
             }
-            if (isLetter(sign) || sign == BLANK) {
-                return state;
+            for (int choice = 0; choice < CHOICES; choice++) {
+                if (offered(state, choice) == sign) {
+                    return behindOffer(state, choice);
+                }
             }
-            if (sign == BREAK) {
-                return state + dueBehindBreak(depthOf(state));
-            }
-            if (sign == offered(state, 1)) {
-                return state - SPAN;
-            }
-            return sign == offered(state, 0) ? state + SPAN : STUCK;
+            return STUCK;
         }
 
         boolean owns(int sign) {
@@ -842,31 +876,34 @@ public final class SpeechMarks {
         }
 
         private void reckonPlace(int from) {
+            boolean atMark = from < signCount && isMark(signs.at(from));
             for (int depth = 0; depth <= DEEPEST; depth++) {
                 int most = grammar.dueBehindBreak(depth);
                 for (int left = 0; left <= most; left++) {
                     int here = Grammar.stateOf(depth, left);
-                    int cost = from < signCount ? costWithoutPutting(from, here) : costOfEnd(here);
+                    int cost = atMark ? costAtMark(from, here) : costAtOther(from, here);
                     costs.set(from * STATES + here, cost);
                 }
             }
         }
 
-        private static int costOfEnd(int here) {
-            return here == 0 ? 0 : FAR;
+        /** Of a letter, a blank, a break, which can only stay, and of the end. */
+        private int costAtOther(int from, int here) {
+            if (from >= signCount) {
+                return here == 0 ? 0 : FAR;
+            }
+            int stay = grammar.step(here, signs.at(from));
+            return stay != STUCK ? costAt(from + 1, stay) : FAR;
         }
 
-        private int costWithoutPutting(int from, int here) {
+        private int costAtMark(int from, int here) {
             int sign = signs.at(from);
-            int stay = grammar.step(here, sign);
-            int best = stay != STUCK ? costAt(from + 1, stay) : FAR;
-            if (isMark(sign)) {
-                best = Math.min(best, weights.at(TAKEN_OUT) + costAt(from + 1, here));
-                for (int choice = 0; choice < 2; choice++) {
-                    int next = stateByOffer(here, choice);
-                    if (next != STUCK) {
-                        best = Math.min(best, weights.at(ANOTHER) + costAt(from + 1, next));
-                    }
+            int best = weights.at(TAKEN_OUT) + costAt(from + 1, here);
+            for (int choice = 0; choice < CHOICES; choice++) {
+                int next = grammar.behindOffer(here, choice);
+                if (next != STUCK) {
+                    int weight = grammar.offered(here, choice) == sign ? 0 : weights.at(ANOTHER);
+                    best = Math.min(best, weight + costAt(from + 1, next));
                 }
             }
             return best;
@@ -900,11 +937,6 @@ public final class SpeechMarks {
 
         private int costAt(int from, int here) {
             return costs.at(from * STATES + here);
-        }
-
-        private int stateByOffer(int here, int choice) {
-            int mark = grammar.offered(here, choice);
-            return mark == NO_SIGN ? STUCK : grammar.step(here, mark);
         }
 
         void followLeastWay() {
@@ -963,8 +995,8 @@ public final class SpeechMarks {
         }
 
         private boolean takeOffer(int change, int nextPlace) {
-            for (int choice = 0; choice < 2; choice++) {
-                int next = stateByOffer(state, choice);
+            for (int choice = 0; choice < CHOICES; choice++) {
+                int next = grammar.behindOffer(state, choice);
                 if (next != STUCK && isLeast(weights.at(change), nextPlace, next)) {
                     say(grammar.offered(state, choice));
                     tally.add(change, 1);
