@@ -440,7 +440,7 @@ public final class SpeechMarks {
 
     private static int pairSign(int tongue, int which) {
         int i = tongue * SIGNS_OF_TONGUE + which;
-        return isBelow(i, PAIRS.length) ? PAIRS[i] : NO_SIGN;
+        return i >= 0 && i < PAIRS.length ? PAIRS[i] : NO_SIGN;
     }
 
     /** A row of numbers that looks at every index, so that no caller can leave it. */
@@ -462,7 +462,9 @@ public final class SpeechMarks {
         }
 
         void add(int i, int more) {
-            set(i, at(i) + more);
+            if (i >= 0 && i < cells.length) {
+                cells[i] += more;
+            }
         }
 
         void fill(int value) {
@@ -493,7 +495,7 @@ public final class SpeechMarks {
             weights.fill(1);
         }
 
-        void copyFrom(Speech other) {
+        void becomeLike(Speech other) {
             replaceBy(other.signs, other.size);
             tongue = other.tongue;
             ruling = other.ruling;
@@ -548,7 +550,7 @@ public final class SpeechMarks {
         void keep(Speech now) {
             Speech slot = slot(next);
             if (slot != null) {
-                slot.copyFrom(now);
+                slot.becomeLike(now);
                 next = next + 1 < MOST_UNDONE ? next + 1 : 0;
                 kept = Math.min(kept + 1, MOST_UNDONE);
             }
@@ -558,7 +560,7 @@ public final class SpeechMarks {
             int latest = next > 0 ? next - 1 : MOST_UNDONE - 1;
             Speech slot = slot(latest);
             if (slot != null && kept > 0) {
-                now.copyFrom(slot);
+                now.becomeLike(slot);
                 next = latest;
                 kept--;
             }
@@ -712,7 +714,11 @@ public final class SpeechMarks {
             grammar.speakAs(speech.tongue, speech.ruling);
             begin();
             for (int place = 0; place < speech.size; place++) {
-                readSign(place, speech.signs.at(place));
+                int sign = speech.signs.at(place);
+                if (!renews(place, sign)) {
+                    readWithNothingDue(place, sign);
+                }
+                depths.set(place, Grammar.depthOf(state));
             }
             if (Grammar.leftDue(state) > 0) {
                 addWrong(speech.size, WRONG_DUE);
@@ -740,25 +746,22 @@ public final class SpeechMarks {
             paragraphCount++;
         }
 
-        private void readSign(int place, int sign) {
+        /** If a mark is due and the sign is another one, nothing is due any more behind this. */
+        private boolean renews(int place, int sign) {
             int left = Grammar.leftDue(state);
-            if (left > 0 && grammar.step(state, sign) != STUCK) {
-                renew(place);
-            } else {
-                if (left > 0) {
-                    addWrong(place, WRONG_DUE);
-                    state -= left;
-                }
-                readWithNothingDue(place, sign);
+            if (left == 0) {
+                return false;
             }
-            depths.set(place, Grammar.depthOf(state));
-        }
-
-        private void renew(int place) {
+            if (grammar.step(state, sign) == STUCK) {
+                addWrong(place, WRONG_DUE);
+                state -= left;
+                return false;
+            }
             kinds.set(place, RENEWS);
             levels.set(place, grammar.firstDue(state));
             addToParagraph(PARAGRAPH_RENEWERS);
             state--;
+            return true;
         }
 
         private void readWithNothingDue(int place, int sign) {
@@ -945,8 +948,9 @@ public final class SpeechMarks {
             state = 0;
             tally.fill(0);
             for (int steps = 0; steps < MOST_MENDED && !hasArrived(); steps++) {
-                if (!letStay() && !makeAnother() && !leaveOut()) {
-                    putAhead();
+                boolean done = letStay() || isAtMark() && (takeOffer(ANOTHER, place + 1) || leaveOut());
+                if (!done) {
+                    takeOffer(PUT_IN, place);
                 }
             }
         }
@@ -977,21 +981,13 @@ public final class SpeechMarks {
             return true;
         }
 
-        private boolean makeAnother() {
-            return isAtMark() && takeOffer(ANOTHER, place + 1);
-        }
-
         private boolean leaveOut() {
-            if (!isAtMark() || !isLeast(weights.at(TAKEN_OUT), place + 1, state)) {
+            if (!isLeast(weights.at(TAKEN_OUT), place + 1, state)) {
                 return false;
             }
             tally.add(TAKEN_OUT, 1);
             goTo(place + 1, state);
             return true;
-        }
-
-        private boolean putAhead() {
-            return takeOffer(PUT_IN, place);
         }
 
         private boolean takeOffer(int change, int nextPlace) {

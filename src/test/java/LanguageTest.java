@@ -8,8 +8,10 @@ import java.nio.file.Path;
 import java.util.ArrayList;
 import java.util.Arrays;
 import java.util.List;
+import java.util.Map;
 import java.util.Random;
 import java.util.Set;
+import java.util.TreeMap;
 import java.util.TreeSet;
 import java.util.regex.Matcher;
 import java.util.regex.Pattern;
@@ -25,6 +27,8 @@ public final class LanguageTest {
         "write(int)", "wrong(int,int)",
     };
     private static final List<String> wrongs = new ArrayList<>();
+    /** Of each method's name in the source its body. */
+    private static final Map<String, String> calls = new TreeMap<>();
 
     public static void main(String[] args) throws IOException, ReflectiveOperationException {
         face();
@@ -127,6 +131,7 @@ public final class LanguageTest {
         must(!Pattern.compile("\\bstatic\\s*\\{").matcher(code).find(), "a static initialiser block");
         must(!Pattern.compile("while\\s*\\(\\s*true|for\\s*\\(\\s*;").matcher(code).find(), "a loop without an end");
         methodsAreShort(code);
+        callsAreFlat();
     }
 
     private static void methodsAreShort(String code) {
@@ -136,9 +141,35 @@ public final class LanguageTest {
             int end = code.indexOf("\n" + heads.group(1) + "}", heads.end());
             long lines = code.substring(heads.start(), Math.max(end, heads.start())).lines().count();
             must(lines <= 60, "a long method: " + heads.group().trim());
+            calls.put(nameIn(heads.group()), code.substring(heads.end(), Math.max(end, heads.end())));
             methods++;
         }
         must(methods > FACE.length, "the methods were not found in the source");
+    }
+
+    private static String nameIn(String head) {
+        String ahead = head.substring(0, head.indexOf('(')).trim();
+        return ahead.substring(ahead.lastIndexOf(' ') + 1);
+    }
+
+    /** By the names in the source, so two methods of one name count as one. */
+    private static void callsAreFlat() {
+        for (String signature : FACE) {
+            String name = signature.substring(0, signature.indexOf('('));
+            int levels = levelsBelow(name, 1);
+            must(levels <= 8, "calls go " + levels + " deep from " + name);
+        }
+    }
+
+    private static int levelsBelow(String name, int level) {
+        int most = level;
+        Matcher called = Pattern.compile("\\b(\\w+)\\(").matcher(calls.getOrDefault(name, ""));
+        while (called.find() && most <= 30) {
+            if (calls.containsKey(called.group(1))) {
+                most = Math.max(most, level > 30 ? level : levelsBelow(called.group(1), level + 1));
+            }
+        }
+        return most;
     }
 
     /** Any arguments in any state, and every method, on objects that are used up to 512 calls. */
