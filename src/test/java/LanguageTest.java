@@ -172,7 +172,10 @@ public final class LanguageTest {
         return most;
     }
 
-    /** Any arguments in any state, and every method, on objects that are used up to 512 calls. */
+    /**
+     * Any arguments in any state, and every method. An object gets some 1500 calls here, beyond the 512
+     * whose answers are promised: that a call never throws has no such end, and no answer is looked at.
+     */
     private static void noCallThrows() throws ReflectiveOperationException {
         List<Method> methods = new ArrayList<>();
         for (Method method : SpeechMarks.class.getDeclaredMethods()) {

@@ -265,6 +265,10 @@ public final class OracleTest {
             return past.size();
         }
 
+        String state() {
+            return "[" + speech + "] " + tongue + " " + rule + " " + w[0] + " " + w[1] + " " + w[2];
+        }
+
         int write(int c) {
             if (c < 32 || c > 126) {
                 return BAD;
@@ -461,68 +465,68 @@ public final class OracleTest {
 
     // ---- all that can be asked
 
-    private static void compare(String where, SpeechMarks x, Model m) {
+    private static void compare(String where, Run x, Model m) {
         Read read = m.read();
         int n = m.speech.length();
         where = where + " of [" + m.speech + "] by " + m.tongue + " " + m.rule + ": ";
         int marks = 0;
         int greatest = 0;
         for (int i = 0; i < n; i++) {
-            due(where + "sign " + i, x.sign(i), (int) m.speech.charAt(i));
-            due(where + "kind " + i, x.kind(i), read.kind[i]);
-            due(where + "depth " + i, x.depth(i), read.depth[i]);
-            due(where + "partner " + i, x.partner(i), read.partner[i]);
+            due(where + "sign " + i, x.ask("sign", i), (int) m.speech.charAt(i));
+            due(where + "kind " + i, x.ask("kind", i), read.kind[i]);
+            due(where + "depth " + i, x.ask("depth", i), read.depth[i]);
+            due(where + "partner " + i, x.ask("partner", i), read.partner[i]);
             marks += isMark(m.speech.charAt(i)) ? 1 : 0;
             greatest = Math.max(greatest, read.depth[i]);
         }
         int[] counts = {n, marks, m.tongue, m.rule, m.w[0], m.w[1], m.w[2], m.text.length(),
             m.past.size(), greatest, read.last};
         for (int what = 0; what < counts.length; what++) {
-            due(where + "count " + what, x.count(what), counts[what]);
+            due(where + "count " + what, x.ask("count", what), counts[what]);
         }
-        due(where + "wrong", x.wrong(-1, 0), read.wrongs.size());
+        due(where + "wrong", x.ask("wrong", -1, 0), read.wrongs.size());
         for (int i = 0; i < read.wrongs.size(); i++) {
-            due(where + "wrong " + i, x.wrong(i, 0), read.wrongs.get(i)[0]);
-            due(where + "wrong by " + i, x.wrong(i, 1), read.wrongs.get(i)[1]);
+            due(where + "wrong " + i, x.ask("wrong", i, 0), read.wrongs.get(i)[0]);
+            due(where + "wrong by " + i, x.ask("wrong", i, 1), read.wrongs.get(i)[1]);
         }
-        due(where + "wrong", x.wrong(read.wrongs.size(), 0), NONE);
-        due(where + "quote", x.quote(-1, 0), read.quotes.size());
+        due(where + "wrong", x.ask("wrong", read.wrongs.size(), 0), NONE);
+        due(where + "quote", x.ask("quote", -1, 0), read.quotes.size());
         for (int i = 0; i < read.quotes.size(); i++) {
             for (int what = 0; what < 7; what++) {
-                due(where + "quote " + i + " " + what, x.quote(i, what), m.quote(read, i, what));
+                due(where + "quote " + i + " " + what, x.ask("quote", i, what), m.quote(read, i, what));
             }
         }
-        due(where + "quote", x.quote(read.quotes.size(), 0), NONE);
+        due(where + "quote", x.ask("quote", read.quotes.size(), 0), NONE);
         int paragraphs = 1 + (int) m.speech.chars().filter(c -> c == '|').count();
-        due(where + "paragraph", x.paragraph(-1, 0), paragraphs);
+        due(where + "paragraph", x.ask("paragraph", -1, 0), paragraphs);
         for (int i = 0; i < paragraphs; i++) {
             for (int what = 0; what < 3; what++) {
-                due(where + "paragraph " + i + " " + what, x.paragraph(i, what), m.paragraph(read, i, what));
+                due(where + "paragraph " + i + " " + what, x.ask("paragraph", i, what), m.paragraph(read, i, what));
             }
         }
-        due(where + "paragraph", x.paragraph(paragraphs, 0), NONE);
+        due(where + "paragraph", x.ask("paragraph", paragraphs, 0), NONE);
         for (int d = 0; d <= 6; d++) {
             int letters = 0;
             for (int i = 0; i < n; i++) {
                 letters += read.kind[i] == 0 && read.depth[i] == d ? 1 : 0;
             }
-            due(where + "said " + d, x.said(d), letters);
+            due(where + "said " + d, x.ask("said", d), letters);
         }
         compareMended(where, x, m);
     }
 
-    private static void compareMended(String where, SpeechMarks x, Model m) {
+    private static void compareMended(String where, Run x, Model m) {
         Search found = m.search();
-        due(where + "least", x.least(), found.least);
+        due(where + "least", x.ask("least"), found.least);
         for (int what = 0; what < 3; what++) {
-            due(where + "changes " + what, x.changes(what), found.tally[what]);
+            due(where + "changes " + what, x.ask("changes", what), found.tally[what]);
         }
         StringBuilder mended = new StringBuilder();
-        for (int i = 0; i < x.mended(-1); i++) {
-            mended.append((char) x.mended(i));
+        for (int i = 0; i < x.ask("mended", -1); i++) {
+            mended.append((char) x.ask("mended", i));
         }
         due(where + "mended", mended.toString(), found.way.toString());
-        due(where + "mended", x.mended(found.way.length()), NONE);
+        due(where + "mended", x.ask("mended", found.way.length()), NONE);
         due(where + "mended has no wrongs", new Read(found.way.toString(), m.tongue, m.rule).wrongs.size(), 0);
     }
 
@@ -570,98 +574,103 @@ public final class OracleTest {
         return s.toString();
     }
 
-    private static void tell(SpeechMarks x, Model m, String where, String text) {
-        due(where + " wipe", x.wipe(), m.text.length());
+    private static void tell(Run x, Model m, String where, String text) {
+        due(where + " wipe", x.tell("wipe"), m.text.length());
         m.text = "";
         for (int i = 0; i < text.length(); i++) {
-            due(where + " write", x.write(text.charAt(i)), m.write(text.charAt(i)));
+            due(where + " write", x.tell("write", text.charAt(i)), m.write(text.charAt(i)));
         }
     }
 
     private static void randomRun(int seed) {
         Random random = new Random(seed);
-        SpeechMarks x = new SpeechMarks();
+        Run x = new Run();
         Model m = new Model();
         int longest = seed % 8 == 0 ? 118 : 24;
-        for (int step = 0; step < 60; step++) {
+        // A step tells some 130 calls at most, and what is told must leave room for what is asked.
+        for (int step = 0; step < 60 && x.calls() < 330; step++) {
             String where = "run " + seed + " step " + step;
             act(random, x, m, where, longest);
             if (step % 6 == 5) {
                 compare(where, x, m);
             }
         }
+        for (int more = 0; more < 7; more++) {
+            due("run " + seed + " undo", x.tell("undo"), m.undo());
+            due("run " + seed + " undone", x.state(), m.state());
+        }
     }
 
-    private static void act(Random random, SpeechMarks x, Model m, String where, int longest) {
+    private static void act(Random random, Run x, Model m, String where, int longest) {
         int n = m.speech.length();
         int a;
         int b;
         switch (random.nextInt(14)) {
             case 0:
                 tell(x, m, where, nearly(random, m.tongue, m.rule, random.nextInt(longest + 6)));
-                due(where + " fault", x.fault(), m.fault());
-                due(where + " lay", x.lay(), m.lay());
+                due(where + " fault", x.ask("fault"), m.fault());
+                due(where + " lay", x.tell("lay"), m.lay());
                 break;
             case 1:
                 tell(x, m, where, random.nextInt(5) == 0 ? "nor" : NAMES[random.nextInt(4)]);
-                due(where + " speak", x.speak(), m.speak());
+                due(where + " speak", x.tell("speak"), m.speak());
                 break;
             case 2:
                 a = number(random, 0, 2);
-                due(where + " rule " + a, x.rule(a), m.rule(a));
+                due(where + " rule " + a, x.tell("rule", a), m.rule(a));
                 break;
             case 3:
                 a = number(random, 0, 2);
                 b = number(random, 1, 9);
-                due(where + " weigh " + a + " " + b, x.weigh(a, b), m.weigh(a, b));
+                due(where + " weigh " + a + " " + b, x.tell("weigh", a, b), m.weigh(a, b));
                 break;
             case 4: case 5: case 6:
                 a = number(random, 0, n);
                 b = anySign(random, m.tongue);
-                due(where + " put " + a + " " + b, x.put(a, b), m.put(a, b));
+                due(where + " put " + a + " " + b, x.tell("put", a, b), m.put(a, b));
                 break;
             case 7:
                 a = number(random, 0, n - 1);
-                due(where + " take " + a, x.take(a), m.take(a));
+                due(where + " take " + a, x.tell("take", a), m.take(a));
                 break;
             case 8: case 9:
                 a = number(random, 0, n - 1);
                 b = anySign(random, m.tongue);
-                due(where + " alter " + a + " " + b, x.alter(a, b), m.alter(a, b));
+                due(where + " alter " + a + " " + b, x.tell("alter", a, b), m.alter(a, b));
                 break;
             case 10:
-                due(where + " undo", x.undo(), m.undo());
+                due(where + " undo", x.tell("undo"), m.undo());
                 break;
             case 11:
-                due(where + " mend", x.mend(), m.mend());
+                due(where + " mend", x.tell("mend"), m.mend());
                 break;
             case 12:
                 a = number(random, 0, 3);
                 b = number(random, 0, 2);
-                due(where + " would " + a + " " + b, x.would(a, b), m.would(a, b));
+                due(where + " would " + a + " " + b, x.ask("would", a, b), m.would(a, b));
                 break;
             default:
                 a = number(random, 0, 3);
-                due(where + " retell " + a, x.retell(a), m.retell(a));
+                due(where + " retell " + a, x.tell("retell", a), m.retell(a));
                 break;
         }
     }
 
-    private static SpeechMarks made(Model m) {
-        SpeechMarks x = new SpeechMarks();
+    private static Run made(Model m) {
+        Run x = new Run();
         for (int i = 0; i < NAMES[m.tongue].length(); i++) {
-            x.write(NAMES[m.tongue].charAt(i));
+            x.tell("write", NAMES[m.tongue].charAt(i));
         }
-        x.speak();
-        x.rule(m.rule);
+        x.tell("speak");
+        x.tell("rule", m.rule);
         for (int which = 0; which < 3; which++) {
-            x.weigh(which, m.w[which]);
+            x.tell("weigh", which, m.w[which]);
         }
-        x.wipe();
+        x.tell("wipe");
         for (int i = 0; i < m.speech.length(); i++) {
-            x.write(m.speech.charAt(i));
+            x.tell("write", m.speech.charAt(i));
         }
-        x.lay();
+        x.tell("lay");
         m.text = m.speech;
         return x;
     }
@@ -697,8 +706,8 @@ public final class OracleTest {
         for (int i = 0; i < length; i++) {
             m.speech += alphabet.charAt(random.nextInt(alphabet.length()));
         }
-        SpeechMarks x = made(m);
-        int least = x.least();
+        Run x = made(m);
+        int least = x.ask("least");
         compareMended("small " + seed + " [" + m.speech + "] ", x, m);
         if (least <= 4) {
             String where = "small " + seed + " [" + m.speech + "] least ";

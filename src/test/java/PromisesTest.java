@@ -179,9 +179,11 @@ public final class PromisesTest {
         due("all signs", x.fault(), NONE);
         for (int letter = 32; letter <= 126; letter++) {
             boolean good = "abcdefghijklmnopqrstuvwxyz |<>{}()[]\"'".indexOf(letter) >= 0;
+            x = new SpeechMarks();
             tell(x, "a" + (char) letter);
             due("fault of " + (char) letter, x.fault(), good ? NONE : 1);
         }
+        x = new SpeechMarks();
         tell(x, "Aa");
         due("the first letter", x.fault(), 0);
         due("the first letter, lay", x.lay(), NO);
@@ -191,6 +193,7 @@ public final class PromisesTest {
         due("120", x.fault(), NONE);
         x.write('b');
         due("121", x.fault(), 120);
+        x = new SpeechMarks();
         tell(x, "a".repeat(121) + "A");
         due("no sign behind the 121st", x.fault(), 120);
         tell(x, "a".repeat(119) + "A" + "aaa");
