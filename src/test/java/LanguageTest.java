@@ -19,18 +19,17 @@ import java.util.regex.Pattern;
 /** The public face, the rules of LANGUAGE.md that can be seen from outside, and that no call throws. */
 public final class LanguageTest {
     private static final Path SOURCE = Path.of("src/main/java/SpeechMarks.java");
-    private static final String[] FACE = {
-        "alter(int,int)", "changes(int)", "count(int)", "depth(int)", "fault()", "kind(int)",
-        "lay()", "least()", "mend()", "mended(int)", "paragraph(int,int)", "partner(int)",
-        "put(int,int)", "quote(int,int)", "retell(int)", "rule(int)", "said(int)", "sign(int)",
-        "speak()", "take(int)", "undo()", "weigh(int,int)", "wipe()", "would(int,int)",
-        "write(int)", "wrong(int,int)",
-    };
+    private static final Path DOCUMENT = Path.of("../shared/DOC.md");
+    private static final int METHODS = 26;
+    /** What the document prints as the public face: its methods, and its constants with their numbers. */
+    private static final Set<String> faceMethods = new TreeSet<>();
+    private static final Map<String, Integer> faceConstants = new TreeMap<>();
     private static final List<String> wrongs = new ArrayList<>();
     /** Of each method's name in the source its body. */
     private static final Map<String, String> calls = new TreeMap<>();
 
     public static void main(String[] args) throws IOException, ReflectiveOperationException {
+        readDocument();
         face();
         classesInside();
         source();
@@ -50,33 +49,53 @@ public final class LanguageTest {
         }
     }
 
-    private static void face() {
+    private static void readDocument() throws IOException {
+        String document = Files.readString(DOCUMENT);
+        int begin = document.indexOf("public final class SpeechMarks {");
+        String face = document.substring(Math.max(begin, 0), Math.max(document.indexOf("\n}", begin), 0));
+        Matcher methods = Pattern.compile("public int (\\w+)\\(([^)]*)\\);").matcher(face);
+        while (methods.find()) {
+            faceMethods.add(methods.group(1) + "(" + methods.group(2).replaceAll("int \\w+", "int").replace(" ", "") + ")");
+        }
+        Matcher constants = Pattern.compile("([A-Z]+) = (-?\\d+)").matcher(face);
+        while (constants.find()) {
+            faceConstants.put(constants.group(1), Integer.valueOf(constants.group(2)));
+        }
+        must(faceMethods.size() == METHODS && faceConstants.size() == 4, "the document's face was not found");
+    }
+
+    private static void face() throws ReflectiveOperationException {
         Class<SpeechMarks> face = SpeechMarks.class;
         must(Modifier.isPublic(face.getModifiers()) && Modifier.isFinal(face.getModifiers()), "not public final");
         Set<String> open = new TreeSet<>();
         Set<String> names = new TreeSet<>();
         for (Method method : face.getDeclaredMethods()) {
             if (!Modifier.isPrivate(method.getModifiers())) {
+                must(Modifier.isPublic(method.getModifiers()), method + " is not public");
                 must(method.getReturnType() == int.class, method + " answers no int");
                 must(!Modifier.isStatic(method.getModifiers()), method + " is static");
                 open.add(signature(method));
                 names.add(method.getName());
             }
         }
-        must(open.equals(new TreeSet<>(Arrays.asList(FACE))), "the methods are " + open);
+        must(open.equals(faceMethods), "the methods are " + open);
         for (Class<?> any : allClasses()) {
             for (Method method : any.getDeclaredMethods()) {
                 must(any == face && !Modifier.isPrivate(method.getModifiers()) || !names.contains(method.getName()),
                     method + " bears the name of a public method");
             }
         }
-        Set<String> fields = new TreeSet<>();
+        Map<String, Integer> constants = new TreeMap<>();
         for (Field field : face.getDeclaredFields()) {
-            if (!Modifier.isPrivate(field.getModifiers())) {
-                fields.add(field.getName());
+            int modifiers = field.getModifiers();
+            if (!Modifier.isPrivate(modifiers)) {
+                boolean constant = Modifier.isPublic(modifiers) && Modifier.isStatic(modifiers)
+                    && Modifier.isFinal(modifiers) && field.getType() == int.class;
+                must(constant, field + " is no public constant");
+                constants.put(field.getName(), constant ? field.getInt(null) : 0);
             }
         }
-        must(fields.equals(new TreeSet<>(Arrays.asList("BAD", "FULL", "NO", "NONE"))), "the constants are " + fields);
+        must(constants.equals(faceConstants), "the constants are " + constants);
         Constructor<?>[] makers = face.getDeclaredConstructors();
         must(makers.length == 1 && Modifier.isPublic(makers[0].getModifiers())
             && makers[0].getParameterCount() == 0, "the constructor");
@@ -144,7 +163,7 @@ public final class LanguageTest {
             calls.put(nameIn(heads.group()), code.substring(heads.end(), Math.max(end, heads.end())));
             methods++;
         }
-        must(methods > FACE.length, "the methods were not found in the source");
+        must(methods > METHODS, "the methods were not found in the source");
     }
 
     private static String nameIn(String head) {
@@ -154,7 +173,7 @@ public final class LanguageTest {
 
     /** By the names in the source, so two methods of one name count as one. */
     private static void callsAreFlat() {
-        for (String signature : FACE) {
+        for (String signature : faceMethods) {
             String name = signature.substring(0, signature.indexOf('('));
             int levels = levelsBelow(name, 1);
             must(levels <= 8, "calls go " + levels + " deep from " + name);
